@@ -75,7 +75,7 @@ public final class PhasorTree {
         if (error != NO_ERROR) {
             return error;
         }
-        record();
+        remember();
         return now.addHub(above, period);
     }
 
@@ -84,7 +84,7 @@ public final class PhasorTree {
         if (error != NO_ERROR) {
             return error;
         }
-        record();
+        remember();
         return now.addUnit(hub, period);
     }
 
@@ -93,7 +93,7 @@ public final class PhasorTree {
         if (error != NO_ERROR) {
             return error;
         }
-        record();
+        remember();
         now.retire(unit);
         return now.unitsLeft();
     }
@@ -103,7 +103,7 @@ public final class PhasorTree {
         if (error != NO_ERROR) {
             return error;
         }
-        record();
+        remember();
         return now.changeSetting(hub, what, value);
     }
 
@@ -135,7 +135,7 @@ public final class PhasorTree {
         if (error != NO_ERROR) {
             return error;
         }
-        record();
+        remember();
         now.depart(unit, stamp, value, flags, ticks);
         return now.way.size;
     }
@@ -145,7 +145,7 @@ public final class PhasorTree {
         if (error != NO_ERROR) {
             return error;
         }
-        record();
+        remember();
         now.elapse(ticks);
         return now.time;
     }
@@ -252,7 +252,7 @@ public final class PhasorTree {
         if (orders.reason != NO_ERROR) {
             return NOT_POSSIBLE;
         }
-        record();
+        remember();
         Tree played = trial;
         trial = now;
         now = played;
@@ -260,7 +260,7 @@ public final class PhasorTree {
     }
 
     /** Adds the present state to the history; beyond 4 the oldest one is dropped, its object used again. */
-    private void record() {
+    private void remember() {
         if (states == MAX_STATES) {
             Tree oldest = history[0];
             for (int i = 1; i < MAX_STATES; i++) {
