@@ -5,7 +5,27 @@ public final class P09SendTest {
         notPossible();
         fortyOnTheirWay();
         moreThanForty();
+        allTenUnits();
         Check.end();
+    }
+
+    private static void allTenUnits() {
+        PhasorTree x = new PhasorTree();
+        for (int unit = 0; unit < 10; unit++) {
+            x.unit(0, 1);
+        }
+        for (int unit = 0; unit < 10; unit++) {
+            send(x, unit + 1, unit, 0, 5 - unit, unit, 1);
+        }
+        for (int unit = 0; unit < 10; unit++) {
+            Check.due("unitOf(" + unit + ", 4)", x.unitOf(unit, 4), 1);
+        }
+        x.pass(1);
+        Check.due("outAt(0, 3)", x.outAt(0, 3), 10);
+        for (int unit = 0; unit < 10; unit++) {
+            Check.due("readingAt(0, " + unit + ", 0)", x.readingAt(0, unit, 0), 5 - unit);
+            Check.due("readingAt(0, " + unit + ", 1)", x.readingAt(0, unit, 1), unit);
+        }
     }
 
     private static void send(PhasorTree x, int due, int... a) {

@@ -56,7 +56,23 @@ public final class P11SlotAtTest {
         Check.due("slotAt(2, 0, 0)", x.slotAt(2, 0, 0), Check.INVALID);
         Check.due("slotAt(-1, 0, 0)", x.slotAt(-1, 0, 0), Check.INVALID);
         slotZero();
+        fromAHubAtOnce();
         Check.end();
+    }
+
+    private static void fromAHubAtOnce() {
+        PhasorTree x = new PhasorTree();
+        x.hub(0, 1);
+        x.unit(1, 1);
+        x.unit(0, 1);
+        x.set(1, 1, 1);
+        x.set(1, 0, 7);
+        x.unit(1, 1);
+        x.set(0, 1, 1);
+        x.set(0, 0, 9);
+        x.send(0, 0, 1, 0, 2);
+        x.pass(10);
+        expect(x, 0, 0, 9, 1, 2, 0, 8);
     }
 
     private static void slotZero() {

@@ -143,6 +143,21 @@ public final class P13ReadingAtTest {
         y.send(1, 4, 5, 0, 1);
         y.pass(1);
         expect(y, 0, 0, 50, 64 + 32);
+        // The first one alone is valid.
+        PhasorTree w = quick(1);
+        w.send(0, 1, 30, 0, 1);
+        w.send(0, 2, 60, 1, 1);
+        w.send(0, 3, 50, 1, 1);
+        w.pass(1);
+        expect(w, 0, 0, 30, 64 + 32);
+        // What the next slot has is not taken.
+        PhasorTree v = quick(1);
+        v.set(0, 0, 5);
+        v.send(0, 3, 30, 0, 1);
+        v.send(0, 5, 60, 0, 1);
+        v.pass(1);
+        expect(v, 0, 0, 30, 64 + 32);
+        Check.due("hubOf(0, 9)", v.hubOf(0, 9), 1);
         // With the filter 0 the one with the stamp is taken though it is not valid.
         PhasorTree z = quick(0);
         z.send(0, 3, 60, 0, 1);

@@ -39,6 +39,7 @@ public final class P17CountTest {
         x.undo();
         expect(x, 2, 2, 9, 0, 2, 2, 1, 1, 3, 2, 0);
         aheadOfTheirStamps();
+        lateAndDoubleOfAllHubs();
         Check.end();
     }
 
@@ -66,5 +67,31 @@ public final class P17CountTest {
         y.pass(1);
         Check.due("count(6)", y.count(6), 1);
         Check.due("count(8)", y.count(8), -6);
+    }
+
+    private static void lateAndDoubleOfAllHubs() {
+        PhasorTree x = new PhasorTree();
+        for (int hub = 0; hub < 5; hub++) {
+            if (hub > 0) {
+                x.hub(0, 1);
+            }
+            x.unit(hub, 1);
+            x.unit(hub, 1);
+            x.set(hub, 0, 40);
+        }
+        x.pass(2);
+        for (int hub = 0; hub < 5; hub++) {
+            x.send(2 * hub, 1, 0, 0, 1);
+            x.send(2 * hub, 1, 0, 0, 2);
+            x.pass(2);
+            Check.due("count(7)", x.count(7), hub + 1);
+            x.takeOff(2 * hub + 1);
+            x.send(2 * hub, 0, 0, 0, 2);
+            x.pass(2);
+        }
+        // The root had to wait for all; in it the stamp 0 is a slot of its own.
+        Check.due("count(6)", x.count(6), 4);
+        Check.due("hubOf(0, 12)", x.hubOf(0, 12), 1);
+        Check.due("hubOf(0, 11)", x.hubOf(0, 11), 0);
     }
 }
