@@ -23,23 +23,32 @@ final class Check {
         due(what, does ? 1 : 0, 1);
     }
 
+    static int asked() {
+        return asked;
+    }
+
+    static int wrong() {
+        return wrong;
+    }
+
     static void end() {
         System.out.println(asked + " answers, " + wrong + " not as due");
         System.exit(wrong == 0 && asked > 0 ? 0 : 1);
     }
 
     /** Replaces the text of x. */
-    static void text(PhasorTree x, String text) {
+    static void text(Probe x, String text) {
         x.clearText();
         for (int i = 0; i < text.length(); i++) {
             due("type(" + (int) text.charAt(i) + ")", x.type(text.charAt(i)), i + 1);
         }
     }
 
-    /** The text's fault: position and reason, both NOT_FOUND if there is none. */
-    static void fault(PhasorTree x, String text, int position, int reason) {
-        text(x, text);
-        due("fault(0) of " + text, x.fault(0), position);
-        due("fault(1) of " + text, x.fault(1), reason);
+    /** The text's fault, told by another object in the same state: both are NOT_FOUND if there is none. */
+    static void fault(Probe x, String text, int position, int reason) {
+        Probe other = x.again();
+        text(other, text);
+        due("fault(0) of " + text, other.fault(0), position);
+        due("fault(1) of " + text, other.fault(1), reason);
     }
 }

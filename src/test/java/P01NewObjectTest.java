@@ -1,7 +1,7 @@
 /** Promise 1: a new object. */
 public final class P01NewObjectTest {
     public static void main(String[] args) {
-        PhasorTree x = new PhasorTree();
+        Probe x = new Probe();
         int[] root = {0, 0, 0, 0, 1, Check.ABSENT, 0, 0, 0, 0, 0, 0, 0, Check.ABSENT, 0};
         for (int what = 0; what < root.length; what++) {
             Check.due("hubOf(0, " + what + ")", x.hubOf(0, what), root[what]);
@@ -15,7 +15,7 @@ public final class P01NewObjectTest {
         Check.due("undo()", x.undo(), Check.IMPOSSIBLE);
         Check.due("nextOut()", x.nextOut(), Check.ABSENT);
         // Two objects have nothing in common.
-        PhasorTree other = new PhasorTree();
+        Probe other = new Probe();
         Check.due("hub(0, 3) of another one", other.hub(0, 3), 1);
         Check.due("count(0)", x.count(0), 1);
         Check.due("pass(5)", x.pass(5), 5);

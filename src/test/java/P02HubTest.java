@@ -7,7 +7,7 @@ public final class P02HubTest {
     }
 
     private static void adds() {
-        PhasorTree x = new PhasorTree();
+        Probe x = new Probe();
         Check.due("hub(0, 20)", x.hub(0, 20), 1);
         Check.due("hub(1, 1)", x.hub(1, 1), 2);
         Check.due("hub(1, 5)", x.hub(1, 5), 3);
@@ -32,7 +32,7 @@ public final class P02HubTest {
     }
 
     private static void refuses() {
-        PhasorTree x = new PhasorTree();
+        Probe x = new Probe();
         Check.due("hub(-1, 1)", x.hub(-1, 1), Check.INVALID);
         Check.due("hub(1, 1)", x.hub(1, 1), Check.INVALID);
         Check.due("hub(0, 0)", x.hub(0, 0), Check.INVALID);

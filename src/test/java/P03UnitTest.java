@@ -1,7 +1,7 @@
 /** Promise 3: unit. */
 public final class P03UnitTest {
     public static void main(String[] args) {
-        PhasorTree x = new PhasorTree();
+        Probe x = new Probe();
         Check.due("unit(1, 1)", x.unit(1, 1), Check.INVALID);
         Check.due("unit(-1, 1)", x.unit(-1, 1), Check.INVALID);
         Check.due("unit(0, 0)", x.unit(0, 0), Check.INVALID);

@@ -9,7 +9,7 @@ public final class P04TakeOffTest {
     }
 
     private static void takesOff() {
-        PhasorTree x = new PhasorTree();
+        Probe x = new Probe();
         Check.due("takeOff(0)", x.takeOff(0), Check.INVALID);
         x.unit(0, 1);
         x.unit(0, 2);
@@ -33,7 +33,7 @@ public final class P04TakeOffTest {
     }
 
     private static void completesASlot() {
-        PhasorTree x = new PhasorTree();
+        Probe x = new Probe();
         x.unit(0, 1);
         x.unit(0, 1);
         x.set(0, 0, 40);
@@ -68,7 +68,7 @@ public final class P04TakeOffTest {
     }
 
     private static void framesAreLate() {
-        PhasorTree x = new PhasorTree();
+        Probe x = new Probe();
         x.unit(0, 1);
         x.unit(0, 1);
         x.set(0, 0, 40);
@@ -95,7 +95,7 @@ public final class P04TakeOffTest {
     }
 
     private static void readingsOnTheirWayAreLeftOut() {
-        PhasorTree x = new PhasorTree();
+        Probe x = new Probe();
         x.hub(0, 1);
         x.unit(1, 1);
         x.unit(1, 1);

@@ -11,7 +11,7 @@ public final class P05SetTest {
     private static void ranges() {
         int[] least = {0, 0, 0, 0, 1};
         int[] most = {40, 1, 2, 20, 20};
-        PhasorTree x = new PhasorTree();
+        Probe x = new Probe();
         x.hub(0, 1);
         for (int what = 0; what < 5; what++) {
             Check.due("set(1, " + what + ", most)", x.set(1, what, most[what]), least[what]);
@@ -34,7 +34,7 @@ public final class P05SetTest {
     }
 
     private static void periodGoesWithTheOthers() {
-        PhasorTree x = new PhasorTree();
+        Probe x = new Probe();
         Check.due("set(0, 4, 12)", x.set(0, 4, 12), 1);
         x.hub(0, 6);
         x.unit(1, 3);
@@ -58,7 +58,7 @@ public final class P05SetTest {
     }
 
     private static void periodOfATouchedHub() {
-        PhasorTree x = new PhasorTree();
+        Probe x = new Probe();
         x.hub(0, 1);
         x.hub(1, 1);
         x.unit(2, 1);
@@ -96,7 +96,7 @@ public final class P05SetTest {
     }
 
     private static void whatItHoldsStays() {
-        PhasorTree x = new PhasorTree();
+        Probe x = new Probe();
         x.hub(0, 1);
         x.unit(1, 1);
         x.unit(1, 1);

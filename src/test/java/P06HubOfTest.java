@@ -1,15 +1,15 @@
 /** Promise 6: hubOf. */
 public final class P06HubOfTest {
     public static void main(String[] args) {
-        PhasorTree x = tree();
+        Probe x = tree();
         facts(x);
         wrongArguments(x);
         Check.end();
     }
 
     /** Hub 0 with unit 0 and hub 1; hub 1 with the units 1, 2 and hub 2; hub 2 with unit 3. */
-    private static PhasorTree tree() {
-        PhasorTree x = new PhasorTree();
+    private static Probe tree() {
+        Probe x = new Probe();
         x.hub(0, 1);
         x.hub(1, 1);
         x.unit(0, 1);
@@ -24,11 +24,11 @@ public final class P06HubOfTest {
         return x;
     }
 
-    private static void expect(PhasorTree x, int hub, int what, int due) {
+    private static void expect(Probe x, int hub, int what, int due) {
         Check.due("hubOf(" + hub + ", " + what + ")", x.hubOf(hub, what), due);
     }
 
-    private static void facts(PhasorTree x) {
+    private static void facts(Probe x) {
         int[] settings = {3, 1, 2, 4, 1, 0, 1, 3, 3};
         for (int what = 0; what < settings.length; what++) {
             expect(x, 1, what, settings[what]);
@@ -80,7 +80,7 @@ public final class P06HubOfTest {
         expect(x, 1, 11, 3);
     }
 
-    private static void wrongArguments(PhasorTree x) {
+    private static void wrongArguments(Probe x) {
         expect(x, 3, 0, Check.INVALID);
         expect(x, -1, 0, Check.INVALID);
         expect(x, 0, -1, Check.INVALID);

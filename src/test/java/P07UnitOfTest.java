@@ -1,7 +1,7 @@
 /** Promise 7: unitOf. */
 public final class P07UnitOfTest {
     public static void main(String[] args) {
-        PhasorTree x = new PhasorTree();
+        Probe x = new Probe();
         x.hub(0, 2);
         x.hub(1, 4);
         x.hub(0, 6);

@@ -1,6 +1,6 @@
 /** Promise 8: unitAt. */
 public final class P08UnitAtTest {
-    private static void expect(PhasorTree x, int hub, int... units) {
+    private static void expect(Probe x, int hub, int... units) {
         for (int i = 0; i < units.length; i++) {
             Check.due("unitAt(" + hub + ", " + i + ")", x.unitAt(hub, i), units[i]);
         }
@@ -8,7 +8,7 @@ public final class P08UnitAtTest {
     }
 
     public static void main(String[] args) {
-        PhasorTree x = new PhasorTree();
+        Probe x = new Probe();
         expect(x, 0);
         x.hub(0, 1);
         x.hub(1, 1);

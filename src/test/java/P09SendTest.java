@@ -10,7 +10,7 @@ public final class P09SendTest {
     }
 
     private static void allTenUnits() {
-        PhasorTree x = new PhasorTree();
+        Probe x = new Probe();
         for (int unit = 0; unit < 10; unit++) {
             x.unit(0, 1);
         }
@@ -28,12 +28,12 @@ public final class P09SendTest {
         }
     }
 
-    private static void send(PhasorTree x, int due, int... a) {
+    private static void send(Probe x, int due, int... a) {
         Check.due("send(" + java.util.Arrays.toString(a) + ")", x.send(a[0], a[1], a[2], a[3], a[4]), due);
     }
 
     private static void ranges() {
-        PhasorTree x = new PhasorTree();
+        Probe x = new Probe();
         send(x, Check.INVALID, 0, 0, 0, 0, 1);
         x.unit(0, 1);
         send(x, Check.INVALID, -1, 0, 0, 0, 1);
@@ -63,7 +63,7 @@ public final class P09SendTest {
     }
 
     private static void notPossible() {
-        PhasorTree x = new PhasorTree();
+        Probe x = new Probe();
         x.unit(0, 3);
         x.unit(0, 1);
         x.pass(7);
@@ -81,7 +81,7 @@ public final class P09SendTest {
     }
 
     private static void fortyOnTheirWay() {
-        PhasorTree x = new PhasorTree();
+        Probe x = new Probe();
         x.unit(0, 2);
         for (int i = 1; i <= 40; i++) {
             send(x, i, 0, 0, i, 0, 2);
@@ -103,7 +103,7 @@ public final class P09SendTest {
 
     private static void moreThanForty() {
         // What hubs release may make it more than 40 on their way; it's the sending that is refused.
-        PhasorTree x = new PhasorTree();
+        Probe x = new Probe();
         x.hub(0, 1);
         x.unit(1, 1);
         x.unit(1, 1);

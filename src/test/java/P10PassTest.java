@@ -12,7 +12,7 @@ public final class P10PassTest {
     }
 
     private static void ranges() {
-        PhasorTree x = new PhasorTree();
+        Probe x = new Probe();
         Check.due("pass(0)", x.pass(0), Check.INVALID);
         Check.due("pass(101)", x.pass(101), Check.INVALID);
         Check.due("pass(-1)", x.pass(-1), Check.INVALID);
@@ -25,7 +25,7 @@ public final class P10PassTest {
     }
 
     private static void theEndOfTime() {
-        PhasorTree x = new PhasorTree();
+        Probe x = new Probe();
         x.unit(0, 20);
         for (int i = 1; i < 200; i++) {
             Check.due("pass(100)", x.pass(100), 100 * i);
@@ -46,7 +46,7 @@ public final class P10PassTest {
 
     private static void deeperHubsFirst() {
         // A hub with a lower number may be deeper: 1 and 2 are below the root, 3 below 1, 4 below 3.
-        PhasorTree x = new PhasorTree();
+        Probe x = new Probe();
         x.hub(0, 1);
         x.hub(0, 1);
         x.hub(1, 1);
@@ -64,7 +64,7 @@ public final class P10PassTest {
 
     private static void orderOfComing() {
         // Of the same time the one that was sent or released earlier comes first; the other is double.
-        PhasorTree x = new PhasorTree();
+        Probe x = new Probe();
         x.unit(0, 1);
         x.unit(0, 1);
         x.set(0, 0, 9);
@@ -89,7 +89,7 @@ public final class P10PassTest {
     }
 
     private static void lateAndDouble() {
-        PhasorTree x = new PhasorTree();
+        Probe x = new Probe();
         x.set(0, 4, 4);
         x.unit(0, 2);
         x.unit(0, 4);
@@ -124,7 +124,7 @@ public final class P10PassTest {
     }
 
     private static void rules() {
-        PhasorTree x = new PhasorTree();
+        Probe x = new Probe();
         x.unit(0, 1);
         x.unit(0, 1);
         x.set(0, 0, 6);
@@ -151,7 +151,7 @@ public final class P10PassTest {
     }
 
     private static void oneReleaseOpensTheNext() {
-        PhasorTree x = new PhasorTree();
+        Probe x = new Probe();
         x.unit(0, 1);
         x.unit(0, 1);
         x.set(0, 0, 40);

@@ -1,13 +1,13 @@
 /** Promise 11: slotAt. */
 public final class P11SlotAtTest {
-    private static void expect(PhasorTree x, int index, int... facts) {
+    private static void expect(Probe x, int index, int... facts) {
         for (int what = 0; what < facts.length; what++) {
             Check.due("slotAt(0, " + index + ", " + what + ")", x.slotAt(0, index, what), facts[what]);
         }
     }
 
     public static void main(String[] args) {
-        PhasorTree x = new PhasorTree();
+        Probe x = new Probe();
         x.set(0, 4, 4);
         x.unit(0, 2);
         x.unit(0, 4);
@@ -61,7 +61,7 @@ public final class P11SlotAtTest {
     }
 
     private static void fromAHubAtOnce() {
-        PhasorTree x = new PhasorTree();
+        Probe x = new Probe();
         x.hub(0, 1);
         x.unit(1, 1);
         x.unit(0, 1);
@@ -77,7 +77,7 @@ public final class P11SlotAtTest {
 
     private static void slotZero() {
         // The slot 0 expects of a quick child as many as any other one, so it cannot be complete.
-        PhasorTree x = new PhasorTree();
+        Probe x = new Probe();
         x.set(0, 4, 3);
         x.unit(0, 1);
         x.set(0, 0, 5);

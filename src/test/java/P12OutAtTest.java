@@ -1,13 +1,13 @@
 /** Promise 12: outAt. */
 public final class P12OutAtTest {
-    private static void expect(PhasorTree x, int index, int... facts) {
+    private static void expect(Probe x, int index, int... facts) {
         for (int what = 0; what < facts.length; what++) {
             Check.due("outAt(" + index + ", " + what + ")", x.outAt(index, what), facts[what]);
         }
     }
 
     public static void main(String[] args) {
-        PhasorTree x = new PhasorTree();
+        Probe x = new Probe();
         x.unit(0, 1);
         x.unit(0, 2);
         Check.due("outAt(0, 0)", x.outAt(0, 0), Check.ABSENT);

@@ -11,13 +11,13 @@ public final class P13ReadingAtTest {
         Check.end();
     }
 
-    private static void expect(PhasorTree x, int index, int unit, int value, int flags) {
+    private static void expect(Probe x, int index, int unit, int value, int flags) {
         Check.due("readingAt(" + index + ", " + unit + ", 0)", x.readingAt(index, unit, 0), value);
         Check.due("readingAt(" + index + ", " + unit + ", 1)", x.readingAt(index, unit, 1), flags);
     }
 
     private static void arguments() {
-        PhasorTree x = new PhasorTree();
+        Probe x = new Probe();
         Check.due("readingAt(0, 0, 0)", x.readingAt(0, 0, 0), Check.INVALID);
         x.unit(0, 1);
         x.unit(0, 1);
@@ -41,8 +41,8 @@ public final class P13ReadingAtTest {
     }
 
     /** A root of the period 4 with this filter, a unit of the period 1 and one of 4, at the time 8. */
-    private static PhasorTree quick(int filter) {
-        PhasorTree x = new PhasorTree();
+    private static Probe quick(int filter) {
+        Probe x = new Probe();
         x.set(0, 4, 4);
         x.set(0, 2, filter);
         x.unit(0, 1);
@@ -52,14 +52,14 @@ public final class P13ReadingAtTest {
         return x;
     }
 
-    private static void sendRow(PhasorTree x, int firstStamp, int... values) {
+    private static void sendRow(Probe x, int firstStamp, int... values) {
         for (int i = 0; i < values.length; i++) {
             x.send(0, firstStamp + i, values[i], 0, 1);
         }
     }
 
     private static void rateByTheLastOne() {
-        PhasorTree x = quick(0);
+        Probe x = quick(0);
         sendRow(x, 1, 10, 20, 30, 40);
         x.send(1, 4, 5, 1, 1);
         x.pass(1);
@@ -72,7 +72,7 @@ public final class P13ReadingAtTest {
     }
 
     private static void mean() {
-        PhasorTree x = quick(1);
+        Probe x = quick(1);
         sendRow(x, 1, -1, -2, -2, -2);
         x.send(1, 4, 5, 3, 1);
         x.pass(1);
@@ -88,14 +88,14 @@ public final class P13ReadingAtTest {
         x.pass(1);
         Check.due("hubOf(0, 11)", x.hubOf(0, 11), 1);
         // The slot 0 expects four, and can have one.
-        PhasorTree y = quick(1);
+        Probe y = quick(1);
         y.send(0, 0, 9, 0, 1);
         y.pass(1);
         expect(y, 0, 0, 9, 64 + 32);
     }
 
     private static void median() {
-        PhasorTree x = quick(2);
+        Probe x = quick(2);
         sendRow(x, 1, 9, -3, 7, 5);
         x.send(1, 4, 5, 0, 1);
         x.pass(1);
@@ -106,7 +106,7 @@ public final class P13ReadingAtTest {
         x.pass(1);
         expect(x, 0, 0, 8, 64 + 32);
         // Twenty of them.
-        PhasorTree y = new PhasorTree();
+        Probe y = new Probe();
         y.set(0, 4, 20);
         y.set(0, 2, 2);
         y.unit(0, 1);
@@ -120,7 +120,7 @@ public final class P13ReadingAtTest {
     }
 
     private static void validOnesAlone() {
-        PhasorTree x = quick(1);
+        Probe x = quick(1);
         x.send(0, 1, 100, 1, 1);
         x.send(0, 2, 10, 2, 1);
         x.send(0, 3, 20, 4, 1);
@@ -135,7 +135,7 @@ public final class P13ReadingAtTest {
         x.send(1, 8, 5, 0, 1);
         x.pass(1);
         expect(x, 0, 0, 3, 64 + 4 + 2 + 1);
-        PhasorTree y = quick(2);
+        Probe y = quick(2);
         y.send(0, 1, 1, 1, 1);
         y.send(0, 2, 60, 0, 1);
         y.send(0, 3, 50, 0, 1);
@@ -144,14 +144,14 @@ public final class P13ReadingAtTest {
         y.pass(1);
         expect(y, 0, 0, 50, 64 + 32);
         // The first one alone is valid.
-        PhasorTree w = quick(1);
+        Probe w = quick(1);
         w.send(0, 1, 30, 0, 1);
         w.send(0, 2, 60, 1, 1);
         w.send(0, 3, 50, 1, 1);
         w.pass(1);
         expect(w, 0, 0, 30, 64 + 32);
         // What the next slot has is not taken.
-        PhasorTree v = quick(1);
+        Probe v = quick(1);
         v.set(0, 0, 5);
         v.send(0, 3, 30, 0, 1);
         v.send(0, 5, 60, 0, 1);
@@ -159,7 +159,7 @@ public final class P13ReadingAtTest {
         expect(v, 0, 0, 30, 64 + 32);
         Check.due("hubOf(0, 9)", v.hubOf(0, 9), 1);
         // With the filter 0 the one with the stamp is taken though it is not valid.
-        PhasorTree z = quick(0);
+        Probe z = quick(0);
         z.send(0, 3, 60, 0, 1);
         z.send(0, 4, 2, 1, 1);
         z.pass(1);
@@ -167,7 +167,7 @@ public final class P13ReadingAtTest {
     }
 
     private static void slowChild() {
-        PhasorTree x = new PhasorTree();
+        Probe x = new Probe();
         x.set(0, 2, 1);
         x.unit(0, 3);
         x.unit(0, 1);
@@ -194,7 +194,7 @@ public final class P13ReadingAtTest {
 
     private static void acrossHubs() {
         // Unit 0 (1) at hub 2 (2, mean) at hub 1 (6, median) at the root (3).
-        PhasorTree x = new PhasorTree();
+        Probe x = new Probe();
         x.set(0, 4, 3);
         x.hub(0, 6);
         x.hub(1, 2);

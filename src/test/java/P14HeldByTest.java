@@ -1,12 +1,12 @@
 /** Promise 14: heldBy. */
 public final class P14HeldByTest {
-    private static void expect(PhasorTree x, int hub, int unit, int value, int flags) {
+    private static void expect(Probe x, int hub, int unit, int value, int flags) {
         Check.due("heldBy(" + hub + ", " + unit + ", 0)", x.heldBy(hub, unit, 0), value);
         Check.due("heldBy(" + hub + ", " + unit + ", 1)", x.heldBy(hub, unit, 1), flags);
     }
 
     public static void main(String[] args) {
-        PhasorTree x = new PhasorTree();
+        Probe x = new Probe();
         expect(x, 0, 0, Check.INVALID, Check.INVALID);
         x.hub(0, 1);
         x.hub(0, 1);

@@ -1,7 +1,7 @@
 /** Promise 15: nextOut. */
 public final class P15NextOutTest {
     public static void main(String[] args) {
-        PhasorTree x = new PhasorTree();
+        Probe x = new Probe();
         Check.due("nextOut()", x.nextOut(), Check.ABSENT);
         // Four hubs in a row, each with the delay 20, and a frame that is on its way for 60 ticks.
         for (int hub = 0; hub < 4; hub++) {
@@ -35,7 +35,7 @@ public final class P15NextOutTest {
         x.pass(1);
         Check.due("count(4)", x.count(4), 1);
         Check.due("nextOut()", x.nextOut(), Check.ABSENT);
-        PhasorTree y = new PhasorTree();
+        Probe y = new Probe();
         y.set(0, 4, 20);
         y.unit(0, 1);
         y.pass(1);

@@ -1,7 +1,7 @@
 /** Promise 16: foresee. */
 public final class P16ForeseeTest {
     public static void main(String[] args) {
-        PhasorTree x = new PhasorTree();
+        Probe x = new Probe();
         Check.due("foresee(0)", x.foresee(0), Check.INVALID);
         Check.due("foresee(201)", x.foresee(201), Check.INVALID);
         Check.due("foresee(-1)", x.foresee(-1), Check.INVALID);
@@ -31,7 +31,7 @@ public final class P16ForeseeTest {
         Check.due("outAt(0, 0)", x.outAt(0, 0), 7);
         Check.due("foresee(85)", x.foresee(85), 9);
         // As far as 200 ticks.
-        PhasorTree y = new PhasorTree();
+        Probe y = new Probe();
         for (int hub = 0; hub < 4; hub++) {
             y.hub(hub, 1);
             y.set(hub + 1, 3, 20);

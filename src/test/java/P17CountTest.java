@@ -1,13 +1,13 @@
 /** Promise 17: count. */
 public final class P17CountTest {
-    private static void expect(PhasorTree x, int... counts) {
+    private static void expect(Probe x, int... counts) {
         for (int what = 0; what < counts.length; what++) {
             Check.due("count(" + what + ")", x.count(what), counts[what]);
         }
     }
 
     public static void main(String[] args) {
-        PhasorTree x = new PhasorTree();
+        Probe x = new Probe();
         Check.due("count(-1)", x.count(-1), Check.INVALID);
         Check.due("count(11)", x.count(11), Check.INVALID);
         Check.due("count(-2147483648)", x.count(Integer.MIN_VALUE), Check.INVALID);
@@ -44,7 +44,7 @@ public final class P17CountTest {
     }
 
     private static void aheadOfTheirStamps() {
-        PhasorTree y = new PhasorTree();
+        Probe y = new Probe();
         y.set(0, 4, 10);
         y.set(0, 1, 1);
         y.unit(0, 1);
@@ -70,7 +70,7 @@ public final class P17CountTest {
     }
 
     private static void lateAndDoubleOfAllHubs() {
-        PhasorTree x = new PhasorTree();
+        Probe x = new Probe();
         for (int hub = 0; hub < 5; hub++) {
             if (hub > 0) {
                 x.hub(0, 1);

@@ -9,7 +9,7 @@ public final class P18UndoTest {
     }
 
     private static void allChanges() {
-        PhasorTree x = new PhasorTree();
+        Probe x = new Probe();
         Check.due("undo()", x.undo(), Check.IMPOSSIBLE);
         x.unit(0, 1);
         Check.due("count(9)", x.count(9), 1);
@@ -43,7 +43,7 @@ public final class P18UndoTest {
     }
 
     private static void atMostFour() {
-        PhasorTree x = new PhasorTree();
+        Probe x = new Probe();
         for (int i = 1; i <= 9; i++) {
             x.pass(i);
             Check.due("count(9)", x.count(9), Math.min(i, 4));
@@ -66,7 +66,7 @@ public final class P18UndoTest {
     }
 
     private static void errorsAndAskingRecordNothing() {
-        PhasorTree x = new PhasorTree();
+        Probe x = new Probe();
         x.unit(0, 2);
         x.pass(1);
         x.hub(0, 0);
@@ -91,7 +91,7 @@ public final class P18UndoTest {
     }
 
     private static void framesComeBack() {
-        PhasorTree x = new PhasorTree();
+        Probe x = new Probe();
         x.hub(0, 1);
         x.unit(1, 1);
         x.unit(1, 1);

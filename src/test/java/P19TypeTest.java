@@ -1,7 +1,7 @@
 /** Promise 19: type. */
 public final class P19TypeTest {
     public static void main(String[] args) {
-        PhasorTree x = new PhasorTree();
+        Probe x = new Probe();
         Check.due("type(31)", x.type(31), Check.INVALID);
         Check.due("type(127)", x.type(127), Check.INVALID);
         Check.due("type(-1)", x.type(-1), Check.INVALID);

@@ -1,7 +1,7 @@
 /** Promise 20: clearText. */
 public final class P20ClearTextTest {
     public static void main(String[] args) {
-        PhasorTree x = new PhasorTree();
+        Probe x = new Probe();
         Check.due("clearText()", x.clearText(), 0);
         Check.text(x, "p1;p");
         Check.due("fault(0)", x.fault(0), 3);

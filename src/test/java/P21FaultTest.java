@@ -10,8 +10,8 @@ public final class P21FaultTest {
         Check.end();
     }
 
-    private static PhasorTree withUnits() {
-        PhasorTree x = new PhasorTree();
+    private static Probe withUnits() {
+        Probe x = new Probe();
         x.unit(0, 1);
         x.unit(0, 2);
         x.pass(10);
@@ -19,7 +19,7 @@ public final class P21FaultTest {
     }
 
     private static void arguments() {
-        PhasorTree x = new PhasorTree();
+        Probe x = new Probe();
         Check.due("fault(-1)", x.fault(-1), Check.INVALID);
         Check.due("fault(2)", x.fault(2), Check.INVALID);
         Check.due("fault(0)", x.fault(0), Check.ABSENT);
@@ -30,7 +30,7 @@ public final class P21FaultTest {
     }
 
     private static void form() {
-        PhasorTree x = withUnits();
+        Probe x = withUnits();
         String[] wrong = {" ", ";", "p", "p;", "p1", "p1,", "p1,;", "p-1;", "p+1;", "p 1;", "P1;", "p0000001;", "p1x;",
             "m", "m0", "m0;", "m0,1", "m0,1;", "m0,1,", "m0,1,;", "m0,1,-", "m0,1,-;", "m0,1,--2;", "m0,1,2", "m0,1,2,",
             "m0,1,2,3;", "m,1,2;", "m0,,2;", "m-0,1,2;", "m0,-1,2;", "m0,1,0000002;", "m0,1,-0000002;", "m0,0000001,2;",
@@ -50,7 +50,7 @@ public final class P21FaultTest {
     }
 
     private static void noSuchUnit() {
-        PhasorTree x = withUnits();
+        Probe x = withUnits();
         Check.fault(x, "x2;", 0, 2);
         Check.fault(x, "x999999;", 0, 2);
         Check.fault(x, "p1;m2,0,0;", 3, 2);
@@ -63,7 +63,7 @@ public final class P21FaultTest {
     }
 
     private static void notPossible() {
-        PhasorTree x = withUnits();
+        Probe x = withUnits();
         String[] texts = {"p0;", "p101;", "p999999;", "m0,11,0;", "m0,20001,0;", "m1,3,0;", "m0,0,100001;",
             "m0,0,-100001;", "m0,0,999999;"};
         for (String text : texts) {
@@ -76,7 +76,7 @@ public final class P21FaultTest {
     }
 
     private static void whenThoseAheadAreDone() {
-        PhasorTree x = withUnits();
+        Probe x = withUnits();
         Check.fault(x, "m0,11,0;", 0, 3);
         Check.fault(x, "p1;m0,11,0;", Check.ABSENT, Check.ABSENT);
         Check.fault(x, "x0;m0,1,0;", 3, 3);
@@ -90,7 +90,7 @@ public final class P21FaultTest {
     }
 
     private static void limits() {
-        PhasorTree x = withUnits();
+        Probe x = withUnits();
         for (int i = 0; i < 38; i++) {
             x.send(0, 0, 0, 0, 2);
         }
@@ -99,7 +99,7 @@ public final class P21FaultTest {
         // After two ticks there is room again; a frame of an order is on its way for one tick.
         Check.fault(x, "m0,1,1;m0,1,1;p1;m0,1,1;m0,1,1;m0,1,1;", 31, 3);
         Check.fault(x, "m0,1,1;m0,1,1;p2;m0,1,1;m0,1,1;m0,1,1;", Check.ABSENT, Check.ABSENT);
-        PhasorTree y = new PhasorTree();
+        Probe y = new Probe();
         for (int i = 0; i < 199; i++) {
             y.pass(100);
         }

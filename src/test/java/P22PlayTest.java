@@ -1,7 +1,7 @@
 /** Promise 22: play. */
 public final class P22PlayTest {
     public static void main(String[] args) {
-        PhasorTree x = new PhasorTree();
+        Probe x = new Probe();
         Check.due("play()", x.play(), 0);
         Check.due("count(9)", x.count(9), 1);
         x.unit(0, 1);

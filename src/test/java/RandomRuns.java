@@ -10,40 +10,15 @@ public final class RandomRuns {
     private static final int[][] PERIODS = {{1}, {1, 2, 4}, {1, 2, 3, 6}, {5, 10, 20}, {1, 2, 4, 5, 10, 20},
         {1, 20}, {2, 4, 8, 16}, {1, 3, 9, 18}, {4, 2, 4, 4}};
 
-    private static PhasorTree built;
+    private static Probe built;
+    // In the same state as the built one, to be asked about all of it.
+    private static Probe asked;
     private static Reference plain;
     private static Random random;
     private static int[] periods;
     private static int waitLimit;
     private static int travelLimit;
     private static StringBuilder log;
-
-    private static int onBuilt(int op, int[] a) {
-        PhasorTree x = built;
-        switch (op) {
-            case 0: return x.hub(a[0], a[1]);
-            case 1: return x.unit(a[0], a[1]);
-            case 2: return x.takeOff(a[0]);
-            case 3: return x.set(a[0], a[1], a[2]);
-            case 4: return x.hubOf(a[0], a[1]);
-            case 5: return x.unitOf(a[0], a[1]);
-            case 6: return x.unitAt(a[0], a[1]);
-            case 7: return x.send(a[0], a[1], a[2], a[3], a[4]);
-            case 8: return x.pass(a[0]);
-            case 9: return x.slotAt(a[0], a[1], a[2]);
-            case 10: return x.outAt(a[0], a[1]);
-            case 11: return x.readingAt(a[0], a[1], a[2]);
-            case 12: return x.heldBy(a[0], a[1], a[2]);
-            case 13: return x.nextOut();
-            case 14: return x.foresee(a[0]);
-            case 15: return x.count(a[0]);
-            case 16: return x.undo();
-            case 17: return x.type(a[0]);
-            case 18: return x.clearText();
-            case 19: return x.fault(a[0]);
-            default: return x.play();
-        }
-    }
 
     private static int onPlain(int op, int[] a) {
         Reference x = plain;
@@ -74,16 +49,27 @@ public final class RandomRuns {
 
     private static int call(int op, int... a) {
         int due = onPlain(op, a);
-        int got = onBuilt(op, a);
         if (op < 4 || op == 7 || op == 8 || op >= 16) {
             log.append(NAMES[op]).append(Arrays.toString(a)).append(" = ").append(due).append('\n');
         }
+        compare(op, a, built.call(NAMES[op], a), due);
+        return due;
+    }
+
+    /** Asks a second object, as the built one has 512 calls only. */
+    private static void ask(int op, int... a) {
+        if (asked.callsLeft() == 0) {
+            asked = built.again();
+        }
+        compare(op, a, asked.call(NAMES[op], a), onPlain(op, a));
+    }
+
+    private static void compare(int op, int[] a, int got, int due) {
         if (got != due) {
             System.out.println(log);
             System.out.println(NAMES[op] + Arrays.toString(a) + " answered " + got + ", the reference " + due);
             System.exit(1);
         }
-        return got;
     }
 
     private static int between(int least, int most) {
@@ -180,48 +166,49 @@ public final class RandomRuns {
     }
 
     private static void compareAll() {
+        asked = built.again();
         for (int what = -1; what <= 11; what++) {
-            call(15, what);
+            ask(15, what);
         }
         for (int hub = 0; hub < plain.count(0); hub++) {
             for (int what = 0; what <= 14; what++) {
-                call(4, hub, what);
+                ask(4, hub, what);
             }
             for (int index = 0; index <= 10; index++) {
-                call(6, hub, index);
+                ask(6, hub, index);
             }
             for (int unit = 0; unit < 10; unit++) {
-                call(12, hub, unit, 0);
-                call(12, hub, unit, 1);
+                ask(12, hub, unit, 0);
+                ask(12, hub, unit, 1);
             }
             for (int index = 0; index <= plain.hubOf(hub, 9); index++) {
                 for (int what = 0; what <= 5; what++) {
-                    call(9, hub, index, what);
+                    ask(9, hub, index, what);
                 }
             }
         }
         for (int unit = 0; unit < 10; unit++) {
             for (int what = 0; what <= 6; what++) {
-                call(5, unit, what);
+                ask(5, unit, what);
             }
         }
         for (int index = 0; index <= 8; index++) {
             for (int what = 0; what <= 4; what++) {
-                call(10, index, what);
+                ask(10, index, what);
             }
             for (int unit = 0; unit < 10; unit++) {
-                call(11, index, unit, 0);
-                call(11, index, unit, 1);
+                ask(11, index, unit, 0);
+                ask(11, index, unit, 1);
             }
         }
-        call(13);
-        call(14, between(1, 200));
-        call(14, between(1, 12));
+        ask(13);
+        ask(14, between(1, 200));
+        ask(14, between(1, 12));
     }
 
     private static void start(long seed) {
         random = new Random(seed);
-        built = new PhasorTree();
+        built = new Probe();
         plain = new Reference();
         log = new StringBuilder("seed ").append(seed).append('\n');
         periods = PERIODS[random.nextInt(PERIODS.length)];
@@ -274,8 +261,9 @@ public final class RandomRuns {
         long runs = args.length > 1 ? Long.parseLong(args[1]) : 600;
         for (long seed = from; seed < from + runs; seed++) {
             start(seed);
-            int steps = between(10, 250);
-            for (int i = 0; i < steps; i++) {
+            int callsLeft = between(0, 400);
+            // A step may take as many calls as a text has characters, and some more.
+            while (built.callsLeft() > Math.max(callsLeft, 80)) {
                 step();
                 if (random.nextInt(12) == 0) {
                     compareAll();

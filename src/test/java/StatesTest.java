@@ -12,8 +12,8 @@ public final class StatesTest {
     }
 
     /** Three hubs below each other and one beside, all with slots, frames on their way, late and double ones. */
-    private static PhasorTree busy() {
-        PhasorTree x = new PhasorTree();
+    static Probe busy() {
+        Probe x = new Probe();
         x.set(0, 4, 4);
         x.hub(0, 2);
         x.hub(1, 4);
@@ -45,7 +45,7 @@ public final class StatesTest {
     }
 
     private static void errorsChangeNothing() {
-        PhasorTree x = busy();
+        Probe x = busy();
         List<String> facts = Facts.of(x);
         int states = x.count(9);
         int[] errors = {x.hub(0, 3), x.hub(9, 1), x.unit(0, 3), x.unit(0, 21), x.takeOff(5), x.takeOff(10), x.set(1, 4, 4),
@@ -61,7 +61,7 @@ public final class StatesTest {
         Facts.same("after errors", Facts.of(x), facts);
     }
 
-    private static int change(PhasorTree x, int kind) {
+    private static int change(Probe x, int kind) {
         switch (kind) {
             case 0:
                 return x.hub(1, 1);
@@ -82,7 +82,7 @@ public final class StatesTest {
     }
 
     private static void undoTakesBackAll() {
-        PhasorTree x = busy();
+        Probe x = busy();
         List<List<String>> before = new ArrayList<>();
         for (int kind = 0; kind < 7; kind++) {
             before.add(Facts.of(x));
@@ -104,7 +104,7 @@ public final class StatesTest {
     }
 
     private static void playOfNothingChangesNothing() {
-        PhasorTree x = busy();
+        Probe x = busy();
         for (int i = 0; i < 12; i++) {
             List<String> facts = Facts.of(x);
             Check.due("play()", x.play(), 0);
@@ -114,11 +114,11 @@ public final class StatesTest {
     }
 
     /** A hub and a unit have nothing of those that bore their numbers before undo, however often that happens. */
-    private static void numbersAreUsedAgain() {
+    static void numbersAreUsedAgain() {
         for (int kind = 0; kind < 4; kind++) {
             for (int passes = 0; passes <= 5; passes++) {
                 for (int undone = 0; undone <= Math.min(passes, 4); undone++) {
-                    PhasorTree x = new PhasorTree();
+                    Probe x = new Probe();
                     hubAndUnitComeAndGo(x, kind);
                     for (int i = 0; i < passes; i++) {
                         x.pass(1);
@@ -133,7 +133,7 @@ public final class StatesTest {
         }
     }
 
-    private static void hubAndUnitComeAndGo(PhasorTree x, int kind) {
+    private static void hubAndUnitComeAndGo(Probe x, int kind) {
         int time = x.count(2);
         Check.due("hub(0, 2)", x.hub(0, 2), 1);
         Check.due("unit(1, 1)", x.unit(1, 1), 0);
