@@ -1049,7 +1049,7 @@ final class FramePromises {
             x.due(0, "undo");
             x.due(0, "count", 2);
         });
-        s.test("Restores the latest state", StatesTest::numbersAreUsedAgain);
+        s.test("Restores the latest state", FramePromises::nothingIsLeftOfWhatWasUndone);
         s.test("which is removed from it.", () -> {
             Probe x = new Probe();
             x.pass(1);
@@ -1088,5 +1088,48 @@ final class FramePromises {
             x.refuses(Check.IMPOSSIBLE, "undo");
             x.due(2, "count", 2);
         });
+    }
+
+    /** Whatever is done and undone next, the object is as one that has never had it. */
+    private static void nothingIsLeftOfWhatWasUndone() {
+        StatesTest.numbersAreUsedAgain();
+        for (String calls : new String[] {"hhhh", "hhhu", "hhuu", "huuu", "uuuu", "uutt"}) {
+            for (int passes = 0; passes <= 5; passes++) {
+                for (int undone = 0; undone <= Math.min(passes, 4); undone++) {
+                    Probe x = new Probe();
+                    doneAndUndone(x, calls);
+                    Probe y = new Probe();
+                    passAndUndo(x, passes, undone);
+                    passAndUndo(y, passes, undone);
+                    Facts.same(calls + " undone", Facts.of(x), Facts.of(y));
+                    x.hub(0, 3);
+                    y.hub(0, 3);
+                    x.unit(1, 1);
+                    y.unit(1, 1);
+                    Facts.same(calls + " undone, and new ones", Facts.of(x), Facts.of(y));
+                }
+            }
+        }
+    }
+
+    private static void passAndUndo(Probe x, int passes, int undone) {
+        for (int i = 0; i < passes; i++) {
+            x.pass(1);
+        }
+        for (int i = 0; i < undone; i++) {
+            x.undo();
+        }
+    }
+
+    /** Four changes: each adds a hub (h) or a unit (u), or takes one off (t). */
+    private static void doneAndUndone(Probe x, String calls) {
+        for (int i = 0; i < 4; i++) {
+            char kind = calls.charAt(i);
+            Check.holds(calls + " is possible",
+                    (kind == 'h' ? x.hub(0, 2) : kind == 'u' ? x.unit(0, 2) : x.takeOff(i - 2)) >= 0);
+        }
+        for (int left = 3; left >= 0; left--) {
+            x.due(left, "undo");
+        }
     }
 }
